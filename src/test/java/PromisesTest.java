@@ -31,6 +31,7 @@ public final class PromisesTest {
         tradeRefusedByBurden();
         tradeRefusals();
         mostTraded();
+        fullField();
         CHECK.end();
     }
 
@@ -293,6 +294,7 @@ public final class PromisesTest {
             due("11 month " + month, want, f.drawdown(0, month));
         }
         due("12 another watch", 0, f.drawdownByPulses(1, 35));
+        due("12 the first month once more", 8000000, f.drawdownByPulses(0, 0));
         due("12 the same once more", 96000000, f.drawdownByPulses(0, 35));
     }
 
@@ -303,6 +305,11 @@ public final class PromisesTest {
         f.watch(99, 0);
         due("13 nothing pumped", 0, f.worstMonth(0));
         f.response(0, 0, 5);
+        f.response(0, 1, 5);
+        f.pump(0, 0, 2);
+        due("13 the first month", 0, f.worstMonth(0));
+        f.response(0, 1, 6);
+        due("13 the second month", 1, f.worstMonth(0));
         f.response(0, 1, 5);
         f.pump(0, 20, 3);
         due("13 of several the first", 20, f.worstMonth(0));
@@ -328,8 +335,23 @@ public final class PromisesTest {
         due("14 a limit of 0", 3, f.over(1));
         f.pump(0, 35, 10);
         due("14 just the limit", 0, f.over(0));
+        overTheGreatestLimit();
         CHECK.noIndex("14 watch -1", () -> f.over(-1));
         CHECK.noIndex("14 watch 2", () -> f.over(2));
+    }
+
+    private static void overTheGreatestLimit() {
+        WellField f = withWells(0);
+        f.watch(0, 10000);
+        for (int delay = 0; delay < 10; delay++) {
+            f.response(0, delay, 1000);
+        }
+        for (int month = 0; month < 36; month++) {
+            f.pump(0, month, 1000);
+        }
+        due("14 just the greatest limit", 0, f.over(0));
+        f.response(0, 11, 1);
+        due("14 more than the greatest limit", 36 - 11, f.over(0));
     }
 
     // Promise 15
@@ -373,6 +395,18 @@ public final class PromisesTest {
         due("15 just at the limit", 0, f.headroom(0, 0));
         due("15 the limit is reached", 5000, f.drawdown(3, 3));
         due("15 another month", 10, f.headroom(0, 1));
+        headroomByTheNumberOne();
+    }
+
+    private static void headroomByTheNumberOne() {
+        WellField f = withWells(0);
+        f.watch(0, 0);
+        f.response(0, 0, 1);
+        due("15 the limit is 0", 0, f.headroom(0, 7));
+        f.pump(0, 7, 400);
+        due("15 over it already", 0, f.headroom(0, 7));
+        f.response(0, 0, 0);
+        due("15 the number is 0 again", 600, f.headroom(0, 7));
     }
 
     // Promise 16
@@ -381,6 +415,11 @@ public final class PromisesTest {
         f.watch(5, 1);
         f.watch(49, 1);
         due("16 no response", -1, f.heaviest(0, 24));
+        f.response(0, 5, 1);
+        f.pump(0, 0, 1);
+        due("16 by one thousandth", 0, f.heaviest(0, 0));
+        f.pump(0, 0, 0);
+        f.response(0, 5, 0);
         f.response(0, 0, 10);
         f.response(0, 11, 100);
         f.response(1, 0, 60);
@@ -389,6 +428,7 @@ public final class PromisesTest {
         due("16 none lowers it", -1, f.heaviest(0, 24));
         f.pump(1, 24, 18);
         due("16 the only one", 1, f.heaviest(0, 24));
+        due("16 an earlier month", -1, f.heaviest(0, 0));
         f.pump(0, 24, 10);
         due("16 over all months", 0, f.heaviest(0, 24));
         f.pump(2, 24, 10);
@@ -409,6 +449,9 @@ public final class PromisesTest {
     // Promise 17
     private static void taken() {
         WellField f = withWells(4, 5, 99);
+        f.pump(0, 0, 1);
+        due("17 the first month", 1, f.taken(0));
+        f.pump(0, 0, 0);
         f.pump(0, 11, 5);
         due("17 half, rounded up", 3, f.taken(0));
         due("17 the other ones behind", 2, f.taken(1));
@@ -627,5 +670,51 @@ public final class PromisesTest {
         due("23 no more above 20000", 0, f.mostTraded(2, 1));
         f.ratio(0, 1, 3);
         due("23 as long as nothing is got", 33, f.mostTraded(2, 1));
+    }
+
+    // Every promise once more, with as many wells and watches as can be
+    private static void fullField() {
+        WellField f = new WellField();
+        for (int well = 0; well < 8; well++) {
+            f.well(well * 10, well % 3, 100 * well);
+            f.pump(well, 3, 100 + well);
+        }
+        for (int watch = 0; watch < 4; watch++) {
+            f.watch(watch * 10, 1);
+        }
+        for (int delay = 0; delay < 12; delay++) {
+            f.response(4, delay, 1);
+        }
+        fieldOfMany(f);
+        for (int bad : new int[] {-1, 8, FAR, DEEP}) {
+            CHECK.noIndex("7 full", () -> f.pump(bad, 0, 0));
+            CHECK.noIndex("15 full", () -> f.headroom(bad, 0));
+            CHECK.noIndex("19 full", () -> f.licence(bad));
+            CHECK.noIndex("22 full, from", () -> f.trade(bad, 0, 1));
+            CHECK.noIndex("23 full, to", () -> f.mostTraded(0, bad));
+        }
+        for (int bad : new int[] {-1, 4, FAR, DEEP}) {
+            CHECK.noIndex("11 full", () -> f.drawdown(bad, 0));
+            CHECK.noIndex("13 full", () -> f.worstMonth(bad));
+            CHECK.noIndex("16 full", () -> f.heaviest(bad, 0));
+            CHECK.noIndex("21 full", () -> f.burden(bad));
+        }
+    }
+
+    private static void fieldOfMany(WellField f) {
+        due("10 full", 100 + 1, f.beyond(0));
+        due("11 full, by one well", 107, f.drawdown(3, 14));
+        due("12 full, by one well", 104, f.drawdownByPulses(0, 14));
+        due("13 full", 3, f.worstMonth(3));
+        due("14 full", 0, f.over(3));
+        due("15 full, the last well", 1000 - 107, f.headroom(7, 3));
+        due("16 full, the last well", 7, f.heaviest(3, 3));
+        due("17 full", 100 + 101 + 102 + 103 + 52, f.taken(0));
+        due("17 full, with the last well", 52 + 105 + 106 + 107, f.taken(1));
+        due("18 full, the last well", 107, f.takenLate(7, 1));
+        due("21 full", 700 * 12, f.burden(3));
+        CHECK.noState("22 full, the last watch", () -> f.trade(4, 7, 1));
+        due("22 full, the last well", 10, f.trade(7, 0, 10));
+        due("23 full", 100, f.mostTraded(1, 2));
     }
 }
