@@ -1,4 +1,4 @@
-/** A desk for groundwater licences: pumping, drawdown, the stream, and trades of licences. */
+// What each call answers is told by the document, ../shared/DOC.md, by the same names.
 public final class WellField {
 
     public static final int NONE = -1;
@@ -176,7 +176,7 @@ public final class WellField {
         needIndex(watch, watchCount);
         int months = 0;
         for (int month = 0; month < MONTHS; month++) {
-            if (slackOf(watch, month) < 0) {
+            if (thousandthsLeft(watch, month) < 0) {
                 months++;
             }
         }
@@ -188,7 +188,7 @@ public final class WellField {
         needIndex(month, MONTHS);
         long room = UNITS_MOST - pumping[well][month];
         for (int watch = 0; watch < watchCount; watch++) {
-            room = Math.min(room, roomAt(watch, reachOf(well, watch), month));
+            room = Math.min(room, unitsLeft(watch, reachOf(well, watch), month));
         }
         return (int) room;
     }
@@ -199,7 +199,7 @@ public final class WellField {
         int heaviest = NONE;
         long most = 0;
         for (int well = 0; well < wellCount; well++) {
-            long weight = loweredBy(well, watch, month);
+            long weight = loweredInAll(well, watch, month);
             if (weight > most) {
                 most = weight;
                 heaviest = well;
@@ -214,7 +214,7 @@ public final class WellField {
         needIndex(year, YEARS);
         int units = 0;
         for (int well = 0; well < wellCount; well++) {
-            units += takenByMonthsBefore(well, MONTHS, year);
+            units += takenOfMonthsBefore(well, MONTHS, year);
         }
         return units;
     }
@@ -222,7 +222,7 @@ public final class WellField {
     public int takenLate(int well, int year) throws IndexOutOfBoundsException {
         needIndex(well, wellCount);
         needIndex(year, YEARS);
-        return takenByMonthsBefore(well, year * MONTHS_OF_YEAR, year);
+        return takenOfMonthsBefore(well, year * MONTHS_OF_YEAR, year);
     }
 
     // ---- licences
@@ -337,25 +337,22 @@ public final class WellField {
         }
     }
 
-    /** How far a watch is from its limit, in thousandths; below 0 where it is over it. */
-    private long slackOf(int watch, int month) {
+    private long thousandthsLeft(int watch, int month) {
         return (long) THOUSAND * limits[watch] - loweredIn(watch, month);
     }
 
-    /** How many units more of a month, pumped at a reach, a watch bears. */
-    private long roomAt(int watch, int reach, int month) {
+    private long unitsLeft(int watch, int reach, int month) {
         long room = UNITS_MOST;
         for (int delay = 0; delay < DELAYS && month + delay < MONTHS; delay++) {
             int number = tableNumber(reach, delay);
             if (number > 0) {
-                room = Math.min(room, Math.max(0, slackOf(watch, month + delay)) / number);
+                room = Math.min(room, Math.max(0, thousandthsLeft(watch, month + delay)) / number);
             }
         }
         return room;
     }
 
-    /** What a well's pumping of one month lowers a watch by, over all months up to the last. */
-    private long loweredBy(int well, int watch, int month) {
+    private long loweredInAll(int well, int watch, int month) {
         int reach = reachOf(well, watch);
         long sum = 0;
         for (int delay = 0; delay < DELAYS && month + delay < MONTHS; delay++) {
@@ -364,8 +361,7 @@ public final class WellField {
         return sum;
     }
 
-    /** What a well takes of the stream in a year by what it pumped in the months before an end. */
-    private int takenByMonthsBefore(int well, int end, int year) {
+    private int takenOfMonthsBefore(int well, int end, int year) {
         int delay = wellPlaces[well] / PLACES_OF_STREAM_DELAY;
         int units = 0;
         for (int m = 0; m < end; m++) {
