@@ -15,20 +15,22 @@ final class DrawdownEdges extends Edges {
     private void drawdown() {
         section("Promise 11: drawdown");
         holds("Returns the drawdown of a watch in a month.", this::drawdownInAMonth);
-        holds("`watch`: the watch", this::drawdownOfEachWatch);
-        holds("`month`: 0 to 35", this::drawdownOfEachMonth);
-        holds("Returns the drawdown, in thousandths.", this::drawdownInThousandths);
-        holds("Throws `IndexOutOfBoundsException` if there is no such watch or month", this::drawdownOfNone);
+        holds("`watch`: the watch", () -> eachWatch("drawdown", WellField::drawdown));
+        holds("`month`: 0 to 35", () -> eachMonth("drawdown", WellField::drawdown));
+        holds("Returns the drawdown, in thousandths.", () -> leastAndGreatest(WellField::drawdown));
+        holds("Throws `IndexOutOfBoundsException` if there is no such watch or month",
+                () -> noSuchWatchOrMonth(WellField::drawdown));
     }
 
     private void drawdownByPulses() {
         section("Promise 12: drawdownByPulses");
         holds("Returns the same, by laying what each month of pumping lowers on a row of months, one after the other.",
                 this::theSame);
-        holds("`watch`: the watch", this::pulsesOfEachWatch);
-        holds("`month`: 0 to 35", this::pulsesOfEachMonth);
-        holds("Returns the drawdown, in thousandths.", this::pulsesInThousandths);
-        holds("Throws `IndexOutOfBoundsException` if there is no such watch or month", this::pulsesOfNone);
+        holds("`watch`: the watch", () -> eachWatch("drawdownByPulses", WellField::drawdownByPulses));
+        holds("`month`: 0 to 35", () -> eachMonth("drawdownByPulses", WellField::drawdownByPulses));
+        holds("Returns the drawdown, in thousandths.", () -> leastAndGreatest(WellField::drawdownByPulses));
+        holds("Throws `IndexOutOfBoundsException` if there is no such watch or month",
+                () -> noSuchWatchOrMonth(WellField::drawdownByPulses));
     }
 
     private void worstMonth() {
@@ -46,6 +48,81 @@ final class DrawdownEdges extends Edges {
         holds("`watch`: the watch", this::overOfEachWatch);
         holds("Returns the months.", this::noneToAllMonths);
         holds("Throws `IndexOutOfBoundsException` if there is no such watch", this::overOfNoWatch);
+    }
+
+    // ---- Promises 11 and 12 alike
+
+    /** The document has two calls that answer the drawdown; both are held to the same edges. */
+    private interface Drawdown {
+        long of(WellField field, int watch, int month);
+    }
+
+    private void eachWatch(String call, Drawdown asked) {
+        WellField f = Fields.wells(0);
+        for (int watch = 0; watch <= 3; watch++) {
+            f.watch(10 * watch, 0);
+            f.response(watch, 0, watch + 1);
+        }
+        f.pump(0, 0, 10);
+        for (int watch = 3; watch >= 0; watch--) {
+            due(call + " of " + watch, 10 * watch + 10, asked.of(f, watch, 0));
+        }
+        noSuchWatch(call, (g, watch) -> asked.of(g, watch, 0));
+    }
+
+    private void eachMonth(String call, Drawdown asked) {
+        WellField f = Fields.wells(0);
+        f.watch(0, 0);
+        f.response(0, 0, 2);
+        for (int month = 0; month <= 35; month++) {
+            f.pump(0, month, month);
+        }
+        for (int month = 0; month <= 35; month++) {
+            due(call + " in " + month, 2 * month, asked.of(f, 0, month));
+        }
+        noSuchMonth(call, (g, month) -> asked.of(g, 0, month));
+    }
+
+    private void leastAndGreatest(Drawdown asked) {
+        WellField none = new WellField();
+        none.watch(0, 0);
+        fillTable(none, 1000);
+        due("no wells", 0, asked.of(none, 0, 35));
+        WellField f = greatest();
+        due("the first month", 8000000, asked.of(f, 0, 0));
+        due("the month 10", 88000000, asked.of(f, 0, 10));
+        due("the greatest drawdown", 96000000, asked.of(f, 0, 11));
+        due("the greatest drawdown in the last month", 96000000, asked.of(f, 0, 35));
+        due("a watch beyond the reach 4", 0, asked.of(f, 1, 35));
+        due("the first month, asked again", 8000000, asked.of(f, 0, 0));
+        WellField least = Fields.wells(0);
+        least.watch(0, 0);
+        least.response(0, 0, 1);
+        least.pump(0, 0, 1);
+        due("one thousandth", 1, asked.of(least, 0, 0));
+    }
+
+    private void noSuchWatchOrMonth(Drawdown asked) {
+        noIndex("watch -1", Fields::full, f -> asked.of(f, -1, 0));
+        noIndex("watch 4", Fields::full, f -> asked.of(f, 4, 35));
+        noIndex("watch 0 of none", Fields::empty, f -> asked.of(f, 0, 0));
+        noIndex("month -1", Fields::full, f -> asked.of(f, 0, -1));
+        noIndex("month 36", Fields::full, f -> asked.of(f, 3, 36));
+        noIndex("neither", Fields::part, f -> asked.of(f, 2, 36));
+    }
+
+    /** Eight wells within the reach 0 that pump all they can, by a table of the greatest numbers. */
+    private static WellField greatest() {
+        WellField f = Fields.wells(0, 1, 2, 3, 4, 5, 6, 7);
+        f.watch(8, 10000);
+        f.watch(58, 10000);
+        for (int delay = 0; delay <= 11; delay++) {
+            f.response(0, delay, 1000);
+        }
+        for (int well = 0; well <= 7; well++) {
+            pumpAllMonths(f, well, 1000);
+        }
+        return f;
     }
 
     // ---- Promise 11
@@ -69,73 +146,6 @@ final class DrawdownEdges extends Edges {
         f.pump(0, 35, 1);
         due("the delay 0 in the last month", 7, f.drawdown(0, 35));
         due("asked, not changed", 7, f.drawdown(0, 35));
-    }
-
-    private void drawdownOfEachWatch() {
-        WellField f = Fields.wells(0);
-        for (int watch = 0; watch <= 3; watch++) {
-            f.watch(10 * watch, 0);
-            f.response(watch, 0, watch + 1);
-        }
-        f.pump(0, 0, 10);
-        for (int watch = 0; watch <= 3; watch++) {
-            due("drawdown of " + watch, 10 * watch + 10, f.drawdown(watch, 0));
-        }
-        noSuchWatch("drawdown", (g, watch) -> g.drawdown(watch, 0));
-    }
-
-    private void drawdownOfEachMonth() {
-        WellField f = Fields.wells(0);
-        f.watch(0, 0);
-        f.response(0, 0, 2);
-        for (int month = 0; month <= 35; month++) {
-            f.pump(0, month, month);
-        }
-        for (int month = 0; month <= 35; month++) {
-            due("drawdown in " + month, 2 * month, f.drawdown(0, month));
-        }
-        noSuchMonth("drawdown", (g, month) -> g.drawdown(0, month));
-    }
-
-    /** Eight wells within the reach 0 that pump all they can, by a table of the greatest numbers. */
-    private static WellField greatest() {
-        WellField f = Fields.wells(0, 1, 2, 3, 4, 5, 6, 7);
-        f.watch(8, 10000);
-        f.watch(58, 10000);
-        for (int delay = 0; delay <= 11; delay++) {
-            f.response(0, delay, 1000);
-        }
-        for (int well = 0; well <= 7; well++) {
-            pumpAllMonths(f, well, 1000);
-        }
-        return f;
-    }
-
-    private void drawdownInThousandths() {
-        WellField none = new WellField();
-        none.watch(0, 0);
-        fillTable(none, 1000);
-        due("no wells", 0, none.drawdown(0, 35));
-        WellField f = greatest();
-        due("the first month", 8000000, f.drawdown(0, 0));
-        due("the month 10", 88000000, f.drawdown(0, 10));
-        due("the greatest drawdown", 96000000, f.drawdown(0, 11));
-        due("the greatest drawdown in the last month", 96000000, f.drawdown(0, 35));
-        due("a watch beyond the reach 4", 0, f.drawdown(1, 35));
-        WellField least = Fields.wells(0);
-        least.watch(0, 0);
-        least.response(0, 0, 1);
-        least.pump(0, 0, 1);
-        due("one thousandth", 1, least.drawdown(0, 0));
-    }
-
-    private void drawdownOfNone() {
-        noIndex("watch -1", Fields::full, f -> f.drawdown(-1, 0));
-        noIndex("watch 4", Fields::full, f -> f.drawdown(4, 35));
-        noIndex("watch 0 of none", Fields::empty, f -> f.drawdown(0, 0));
-        noIndex("month -1", Fields::full, f -> f.drawdown(0, -1));
-        noIndex("month 36", Fields::full, f -> f.drawdown(3, 36));
-        noIndex("neither", Fields::part, f -> f.drawdown(2, 36));
     }
 
     // ---- Promise 12
@@ -163,54 +173,6 @@ final class DrawdownEdges extends Edges {
         due("the last month of pumping", 46, g.drawdownByPulses(0, 35));
         g.rest(0, 0, 36);
         due("rested", 0, g.drawdownByPulses(0, 35));
-    }
-
-    private void pulsesOfEachWatch() {
-        WellField f = Fields.wells(0);
-        for (int watch = 0; watch <= 3; watch++) {
-            f.watch(10 * watch, 0);
-            f.response(watch, 0, watch + 1);
-        }
-        f.pump(0, 0, 10);
-        for (int watch = 3; watch >= 0; watch--) {
-            due("drawdownByPulses of " + watch, 10 * watch + 10, f.drawdownByPulses(watch, 0));
-        }
-        noSuchWatch("drawdownByPulses", (g, watch) -> g.drawdownByPulses(watch, 0));
-    }
-
-    private void pulsesOfEachMonth() {
-        WellField f = Fields.wells(0);
-        f.watch(0, 0);
-        f.response(0, 0, 2);
-        for (int month = 0; month <= 35; month++) {
-            f.pump(0, month, month);
-        }
-        for (int month = 0; month <= 35; month++) {
-            due("drawdownByPulses in " + month, 2 * month, f.drawdownByPulses(0, month));
-        }
-        noSuchMonth("drawdownByPulses", (g, month) -> g.drawdownByPulses(0, month));
-    }
-
-    private void pulsesInThousandths() {
-        WellField none = new WellField();
-        none.watch(0, 0);
-        fillTable(none, 1000);
-        due("no wells", 0, none.drawdownByPulses(0, 35));
-        WellField f = greatest();
-        due("the first month", 8000000, f.drawdownByPulses(0, 0));
-        due("the greatest drawdown", 96000000, f.drawdownByPulses(0, 11));
-        due("the greatest drawdown in the last month", 96000000, f.drawdownByPulses(0, 35));
-        due("a watch beyond the reach 4", 0, f.drawdownByPulses(1, 35));
-        due("the first month, asked again", 8000000, f.drawdownByPulses(0, 0));
-    }
-
-    private void pulsesOfNone() {
-        noIndex("watch -1", Fields::full, f -> f.drawdownByPulses(-1, 0));
-        noIndex("watch 4", Fields::full, f -> f.drawdownByPulses(4, 35));
-        noIndex("watch 0 of none", Fields::empty, f -> f.drawdownByPulses(0, 0));
-        noIndex("month -1", Fields::full, f -> f.drawdownByPulses(0, -1));
-        noIndex("month 36", Fields::full, f -> f.drawdownByPulses(3, 36));
-        noIndex("neither", Fields::part, f -> f.drawdownByPulses(2, 36));
     }
 
     // ---- Promise 13

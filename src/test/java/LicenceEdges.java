@@ -203,12 +203,21 @@ final class LicenceEdges extends Edges {
         least.watch(0, 0);
         least.response(0, 11, 1);
         due("one thousandth", 1, least.burden(0));
-        WellField traded = Fields.wells(0, 0);
-        traded.ratio(0, 0, 200);
-        traded.trade(0, 1, 1000);
-        traded.watch(0, 0);
-        fillTable(traded, 1000);
-        due("by a licence that grew", 3000 * 12000, traded.burden(0));
+        due("by a licence of 20000", 22500 * 12000, grown().burden(0));
+    }
+
+    /** Wells with the licences 0, 20000 and 2500, by trades that were made ahead of the watch and its table. */
+    private static WellField grown() {
+        WellField f = new WellField();
+        for (int well = 0; well <= 2; well++) {
+            f.well(0, 0, 5000);
+        }
+        f.ratio(0, 0, 200);
+        f.trade(0, 1, 5000);
+        f.trade(2, 1, 2500);
+        f.watch(0, 0);
+        fillTable(f, 1000);
+        return f;
     }
 
     private void burdenOfNoWatch() {

@@ -229,6 +229,7 @@ final class TermsEdges extends Edges {
     }
 
     private void tableAtFirst() {
+        fillTable(new WellField(), 1000);
         WellField f = Fields.wells(0);
         f.watch(0, 0);
         f.pump(0, 0, 1000);
@@ -413,10 +414,10 @@ final class TermsEdges extends Edges {
     }
 
     private void evenBurden() {
-        int[] licences = {1, 10, 100, 1000, 5000, 5000, 5000, 5000};
+        int[] licences = {5000, 5000, 5000, 5000, 1000, 100, 10, 1};
         WellField f = new WellField();
         for (int well = 0; well < 8; well++) {
-            f.well(10 * well, 0, licences[well]);
+            f.well(70 - 10 * well, 0, licences[well]);
         }
         f.watch(0, 0);
         for (int reach = 0; reach <= 4; reach++) {
@@ -428,6 +429,7 @@ final class TermsEdges extends Edges {
     }
 
     private void ratiosAtFirst() {
+        new WellField().ratio(0, 0, 200);
         for (int from = 0; from <= 2; from++) {
             for (int to = 0; to <= 2; to++) {
                 WellField f = new WellField();
@@ -512,9 +514,9 @@ final class TermsEdges extends Edges {
 
     private void nothingChanged() {
         noArgument("well", Fields::part, f -> f.well(99, 2, 5001));
-        noState("well", Fields::full, f -> f.well(99, 2, 5000));
+        noState("well", Fields::full, f -> f.well(50, 2, 5000));
         noArgument("watch", Fields::part, f -> f.watch(99, 10001));
-        noState("watch", Fields::full, f -> f.watch(99, 10000));
+        noState("watch", Fields::full, f -> f.watch(50, 10000));
         noIndex("response", Fields::full, f -> f.response(4, 12, 1000));
         noArgument("response", Fields::full, f -> f.response(4, 11, 1001));
         noIndex("pump", Fields::full, f -> f.pump(7, 36, 1000));
