@@ -10,6 +10,13 @@ final class Checks {
         }
     }
 
+    void holds(String what, boolean right) {
+        made++;
+        if (!right) {
+            tell("does not hold: " + what);
+        }
+    }
+
     /** A call is due to throw just this exception, no class below it. */
     void refused(String call, Class<? extends RuntimeException> want, Runnable body) {
         made++;

@@ -2,6 +2,8 @@
 public final class EdgesTest {
     public static void main(String[] args) {
         Sentences sentences = new Sentences();
+        new WholeEdges(sentences).all();
+        new FaceEdges(sentences).all();
         new TermsEdges(sentences).all();
         new FieldEdges(sentences).all();
         new PumpingEdges(sentences).all();

@@ -117,7 +117,7 @@ final class Sentences {
     }
 
     private static boolean needsTests(String title) {
-        return title.equals("Terms") || title.startsWith("Promise ");
+        return !title.equals("Not promised");
     }
 
     /** What stays of a part of the document without what is quoted of it, and without bare signs. */
@@ -138,7 +138,7 @@ final class Sentences {
         return left.replaceAll("[-\\s;:.,]*\n[-\\s;:.,]*", " ").strip();
     }
 
-    /** The document's parts by their titles, each as one line, without the signature ahead of it. */
+    /** The document's parts by their titles, each as one line. */
     private static Map<String, String> document() {
         Map<String, String> parts = new LinkedHashMap<>();
         String text;
@@ -151,8 +151,7 @@ final class Sentences {
         for (String part : text.split("(?m)^## ")) {
             int end = part.indexOf('\n');
             if (end > 0) {
-                String body = part.substring(end).strip().replaceFirst("^`[^`]*`: ", "");
-                parts.put(part.substring(0, end).strip(), body.replaceAll("\\s+", " "));
+                parts.put(part.substring(0, end).strip(), part.substring(end).strip().replaceAll("\\s+", " "));
             }
         }
         return parts;

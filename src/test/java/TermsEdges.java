@@ -1,4 +1,4 @@
-/** The sentences under 'Terms', and the one that bounds how long an object is used. */
+/** The sentences under 'Terms', but for those that tell of the interface alone (FaceEdges). */
 final class TermsEdges extends Edges {
     TermsEdges(Sentences sentences) {
         super(sentences);
@@ -6,23 +6,12 @@ final class TermsEdges extends Edges {
 
     @Override
     void all() {
-        section("What it is");
-        holds("An object is used for at most 512 calls after it has been made; what later calls answer is free.",
-                this::lastCall);
         section("Terms");
         monthsAndPlaces();
         tableAndLimits();
         stream();
         licences();
         refusals();
-        tellsNoAnswer("Ahead of the calls `well`, `watch`, `response`, `wells`, `watches` the interface says: "
-                + "---- the field.");
-        tellsNoAnswer("Ahead of the calls `pump`, `rest`, `pumped`, `beyond` the interface says: ---- pumping.");
-        tellsNoAnswer("Ahead of the calls `drawdown`, `drawdownByPulses`, `worstMonth`, `over`, `headroom`, "
-                + "`heaviest` the interface says: ---- drawdown.");
-        tellsNoAnswer("Ahead of the calls `taken`, `takenLate` the interface says: ---- the stream.");
-        tellsNoAnswer("Ahead of the calls `licence`, `ratio`, `burden`, `trade`, `mostTraded` the interface says: "
-                + "---- licences.");
     }
 
     private void monthsAndPlaces() {
@@ -77,15 +66,6 @@ final class TermsEdges extends Edges {
         holds("A call that throws changes nothing.", this::nothingChanged);
         holds("Where two exceptions apply, the one that is listed first is thrown.", this::listedFirst);
         holds("The constants: `NONE = -1`: None.", () -> due("NONE", -1, WellField.NONE));
-    }
-
-    private void lastCall() {
-        WellField f = Fields.wells(0);
-        for (int call = 2; call <= 510; call++) {
-            f.pump(0, call % 36, 7);
-        }
-        due("the 511th call", 7, f.pump(0, 0, 8));
-        due("the 512th call", 11 * 7 + 8, f.pumped(0, 0));
     }
 
     // ---- months, wells, watches, places

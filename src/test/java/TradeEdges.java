@@ -120,7 +120,8 @@ final class TradeEdges extends Edges {
     }
 
     private void unitsGot() {
-        int[][] trades = {{1, 0, 0}, {1, 99, 0}, {1, 100, 1}, {1, 200, 2}, {3, 50, 1}, {7, 199, 13}, {5000, 200, 10000}};
+        int[][] trades = {
+            {1, 0, 0}, {1, 99, 0}, {1, 100, 1}, {1, 200, 2}, {3, 50, 1}, {7, 199, 13}, {5000, 200, 10000}};
         for (int[] trade : trades) {
             WellField f = twoWells(5000, 1, trade[1]);
             String of = trade[0] + " units by the ratio " + trade[1];
